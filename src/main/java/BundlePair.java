@@ -83,8 +83,8 @@ public final class BundlePair {
             bits = other.bits;
         }
 
-        void setBit(int bit, boolean on) {
-            bits = on ? bits | bit : bits & ~bit;
+        void setBits(int mask, boolean on) {
+            bits = on ? bits | mask : bits & ~mask;
         }
 
         boolean namesSame(Told other) {
@@ -277,15 +277,15 @@ public final class BundlePair {
 
         void setStage(int next) {
             stage = next;
-            own.setBit(IN_STEP, next >= JOINED);
-            own.setBit(COLLECTS, next >= COLLECTING);
-            own.setBit(GIVES, next >= GIVING);
+            own.setBits(IN_STEP, next >= JOINED);
+            own.setBits(COLLECTS, next >= COLLECTING);
+            own.setBits(GIVES, next >= GIVING);
         }
 
         void becomeLit() {
             view = OLD;
             timer = SHORT_TIME;
-            partner.setBit(STAGE_BITS, false);
+            partner.setBits(STAGE_BITS, false);
             lastClock = NONE;
         }
 
@@ -300,7 +300,7 @@ public final class BundlePair {
             boolean known = heardNote.partner.namesSame(own)
                 && heardNote.partner.has(KEYED) == own.has(KEYED);
             if (!known) {
-                partner.setBit(IN_STEP, false);
+                partner.setBits(IN_STEP, false);
             }
             view = NEW;
             timer = own.has(QUICK) ? SHORT_TIME : LONG_TIME;
@@ -324,7 +324,7 @@ public final class BundlePair {
             if (view == NEW) {
                 view = OLD;
                 timer = SHORT_TIME;
-                partner.setBit(STAGE_BITS, false);
+                partner.setBits(STAGE_BITS, false);
             } else {
                 view = LONE;
                 partner.clear();
@@ -561,7 +561,7 @@ public final class BundlePair {
         Told own = ends[end].ports[port].own;
         own.key = key;
         own.priority = priority;
-        own.setBit(KEYED, key > 0);
+        own.setBits(KEYED, key > 0);
         noteChange();
     }
 
@@ -570,8 +570,8 @@ public final class BundlePair {
             throw new IllegalArgumentException("no such end or port");
         }
         Told own = ends[end].ports[port].own;
-        own.setBit(ACTIVE, active);
-        own.setBit(QUICK, quick);
+        own.setBits(ACTIVE, active);
+        own.setBits(QUICK, quick);
         noteChange();
     }
 

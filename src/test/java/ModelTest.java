@@ -60,10 +60,14 @@ public final class ModelTest {
         return row[random.nextInt(row.length)];
     }
 
-    /** A number from 0 on, below bound; rarely one just outside. */
+    /** A number from 0 on, below bound; rarely one just outside, or far from it. */
     private int number(int bound) {
-        int odd = random.nextInt(40);
-        return odd == 0 ? -1 : odd == 1 ? bound : random.nextInt(bound);
+        switch (random.nextInt(60)) {
+            case 0: return -1;
+            case 1: return bound;
+            case 2: return random.nextBoolean() ? Integer.MIN_VALUE : Integer.MAX_VALUE;
+            default: return random.nextInt(bound);
+        }
     }
 
     private void playCall(boolean rough) {
