@@ -49,6 +49,7 @@ public final class EdgeTest extends Scenes {
         cameValues();
         lookBundleWithoutTick();
         lookBundleNotLit();
+        lookBundleLitAgain();
         lookAnotherWhat();
         lookNotesStay();
         cableNotPlugged();
@@ -650,6 +651,19 @@ public final class EdgeTest extends Scenes {
         x.light(0, true);
         dueLook("LIT, but as of the latest (c)", x, 0, 0, 6, -1);
         dueLook("LIT, but as of the latest (c)", x, 0, 0, 7, 0);
+    }
+
+    /** Promise 13: "as of the latest TICK's (c)": LIT again without a TICK, that one counts yet. */
+    private static void lookBundleLitAgain() {
+        BundlePair x = joined(1);
+        x.light(0, false);
+        x.light(0, true);
+        dueLook("LIT again", x, 0, 0, 6, 0);
+        dueLook("LIT again", x, 0, 0, 7, 1);
+        Checks.due("none is in STAGE 4: give", x.give(0, 0, 0, 0), -1);
+        x.tick(1);
+        dueLook("it FIT none", x, 0, 0, 6, -1);
+        dueLook("it FIT none", x, 0, 0, 7, 0);
     }
 
     /** Promise 13: "NONE for another what". */
